@@ -116,6 +116,9 @@ public final class FlagsTest {
                 s.fine("lawful " + v + " " + d, s.x.lawful(v, d), set >> d & 1);
             }
         }
+        Sea t = new Sea("lawful of none");
+        t.world("nation a deeds 6;nation b deeds 10;good g of a worth 1;good h of b worth 1;port p;ship s at p hold 9;aboard s g 2;aboard s h 2;");
+        t.fine("of all 2, of none 11110001", t.x.deeds(0), 243);
         s.none("no deed", s.x.lawful(0, 8), 1);
         s.none("no deed", s.x.lawful(0, -1), 1);
         s.none("no ship", s.x.lawful(4, 0), 1);
@@ -159,5 +162,8 @@ public final class FlagsTest {
         s.fine("the most", s.x.greatest(0), 2);
         s.x.rule(1);
         s.fine("tons by any rule", s.x.greatest(0), 2);
+        s.x.trade(0, 3, 1);
+        s.x.buy(2, 3, 1);
+        s.fine("a single ton", s.x.greatest(2), 2);
     }
 }

@@ -14,6 +14,7 @@ public final class LivesTest {
         draws();
         lived();
         mean();
+        newWorldBehindMean();
         marks();
         Sea.end("LivesTest");
     }
@@ -331,6 +332,22 @@ public final class LivesTest {
         s.x.pay(2, -9999);
         s.fine("no coins", s.x.mean(0, 3));
         s.fraction("0 by 1", 0, 1);
+    }
+
+    private static void newWorldBehindMean() {
+        Sea s = new Sea("new world behind mean");
+        String text = "nation a wage 5 duty 2;nation b duty 9;good g of a worth 1;port p;port q of b;way p q days 3;ship s at p hold 9 coins 6;aboard s g 1;rule 1;";
+        s.fine("world", s.world(text), 1);
+        String was = s.all();
+        s.x.sail(0, 1);
+        s.x.day(5);
+        s.x.sail(0, 0);
+        s.x.day(1);
+        s.x.pay(0, 9);
+        s.goodVoyages("day 1;", 1);
+        s.fine("mean", s.x.mean(3, 4));
+        s.fine("the same world again", s.world(text), 1);
+        s.same("is as it was", s.all(), was);
     }
 
     private static void marks() {

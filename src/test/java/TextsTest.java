@@ -9,6 +9,7 @@ public final class TextsTest {
         numbers();
         twice();
         oneMore();
+        fullWorld();
         firstAlongTheText();
         oldWorldStays();
         told();
@@ -229,6 +230,49 @@ public final class TextsTest {
         }
         s.fine("four ships", s.world(t.toString()), 4);
         s.badWorld(t + "ship x at pa hold 1;", 6, t.length());
+    }
+
+    /** As many of all things as there can be: every call reaches the last of each. */
+    private static void fullWorld() {
+        StringBuilder t = new StringBuilder();
+        for (int i = 0; i < 6; i++) {
+            t.append("nation n").append((char) ('a' + i)).append(" wage ").append(i).append(";port p").append((char) ('a' + i)).append(";");
+        }
+        for (int i = 0; i < 8; i++) {
+            t.append("good g").append((char) ('a' + i)).append(" of n").append((char) ('a' + i % 6)).append(" worth ").append(i + 1).append(" leaks 1;");
+        }
+        for (int i = 0; i < 4; i++) {
+            t.append("ship s").append((char) ('a' + i)).append(" at p").append((char) ('a' + i)).append(" hold 60;");
+            t.append("aboard s").append((char) ('a' + i)).append(" gh ").append(4 + i).append(";");
+        }
+        t.append("war na nf;war nb nf;way pa pf days 1;way pf pd days 2;price pd gh 3;price pf gh 9;");
+        Sea s = new Sea("full world");
+        s.fine("world", s.world(t.toString()), 4);
+        s.fine("tons", s.x.told(8), 22);
+        s.fine("coins", s.x.told(9), 400);
+        s.fine("lawless", s.x.told(7), 0);
+        s.fine("ruled", s.x.ruled(3), 1);
+        s.fine("share", s.x.share(3, 1));
+        s.fraction("share", 1, 1);
+        s.fine("deeds", s.x.deeds(3), 0);
+        s.fine("boarders", s.x.boarders(3), 0);
+        s.fine("greatest", s.x.greatest(1), 3);
+        s.fine("best", s.x.best(3, 5), 7);
+        s.fine("soonest", s.x.soonest(0, 3), 3);
+        s.fine("next", s.x.next(3, 0), 5);
+        s.fine("reach", s.x.reach(5), 41);
+        // Seven tons sold at 3, forty bought; 38 of them sold at 9; back; 60 bought, two wages, 58 sold.
+        s.fine("voyage", s.x.voyage(3, 3), 38 * 9 - 60 * 3 - 2 + 58 * 9);
+        s.fine("passFor", s.x.passFor(3, 5), 8);
+        s.fine("stowaway", s.x.stowaway(3), 7);
+        s.fine("guard", s.x.guard(3, 6), 1);
+        s.fine("flagIn", s.x.flagIn(3, 6), 1);
+        s.fine("turns", s.x.turns(3), 7);
+        s.none("peace", s.x.peace(3), 6);
+        s.fine("war", s.x.nation(5, 3), 3);
+        s.x.sail(3, 5);
+        s.fine("day", s.x.day(2), 8);
+        s.fine("at sea", s.x.told(6), 0);
     }
 
     private static void firstAlongTheText() {

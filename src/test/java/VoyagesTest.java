@@ -4,6 +4,7 @@ public final class VoyagesTest {
         voyage();
         voyageRules();
         ties();
+        noTonIsNoChoice();
         soonest();
         next();
         reach();
@@ -70,6 +71,18 @@ public final class VoyagesTest {
         s.fine("two legs, over q", s.x.voyage(0, 2), 20);
         s.fine("the first port", s.x.voyageAt(0, 2, 0), 1);
         s.fine("the first good ahead of nothing", s.x.voyageAt(0, 2, 1), 0);
+    }
+
+    private static void noTonIsNoChoice() {
+        Sea s = new Sea("no ton is no choice");
+        s.world("nation a wage 0;good g of a worth 1;port p;port q;way p q days 1;price p g 5;price q g 5;ship s at p hold 10 coins 4;");
+        s.fine("coins", s.x.voyage(0, 1), 4);
+        s.fine("too few for a ton", s.x.voyageAt(0, 1, 1), -1);
+        s.x.pay(0, 1);
+        s.fine("just a ton", s.x.voyageAt(0, 1, 1), 0);
+        s.world("nation a wage 0;good g of a worth 1;good h of a worth 1;port p;port q;way p q days 1;price p g 5;price q g 5;"
+            + "ship s at p hold 10 coins 40;aboard s h 10;");
+        s.fine("no room", s.x.voyageAt(0, 1, 1), -1);
     }
 
     private static void soonest() {
