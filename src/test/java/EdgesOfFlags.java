@@ -94,6 +94,11 @@ final class EdgesOfFlags {
         s.fine("d alone", s.x.deeds(0), 5);
         s.x.dump(0, 3, 1);
         s.fine("nothing is aboard any more", s.x.deeds(0), 255);
+        s.world("nation a deeds 6;nation b deeds 2;nation c deeds 8;good g of a worth 1;good h of b worth 1;good i of c worth 1;port p;"
+            + "ship s at p hold 9;aboard s g 1;aboard s h 1;aboard s i 1;");
+        s.fine("a deed of two of three, or of one, is not lawful", s.x.deeds(0), 255 - 14);
+        s.x.dump(0, 2, 1);
+        s.fine("the deed of both is", s.x.deeds(0), 255 - 4);
     }
 
     private static void bothAreRuled(Sea s) {

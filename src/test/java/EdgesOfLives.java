@@ -35,6 +35,7 @@ final class EdgesOfLives {
         d.term("any: the SHIP SAILS to a PORT by a draw by how many PORTS there are.", EdgesOfLives::any);
         d.term("What can't be is MISSED: DAYS beyond 9,999 (as a whole), a buy, a sell, a dump, a sail (by any, too) that can't be.", EdgesOfLives::missed);
         d.term("At most 300 STEPS (when, loop count as one each time they are come to from ahead; end does not).", EdgesOfLives::threeHundredSteps);
+        d.term("TEST: ruled NAME NAME, or in NAME NAME, or coins NAME COMPARES NUMBER. COMPARES: < or > or =", EdgesOfLives::tests);
         d.term("LIVED by a seed (0 to 9,999): all is as it is then.", EdgesOfLives::asItIsThen);
         d.term("Draws: s, at first the seed, becomes what is left of s times 3,023 and 11,251 by 65,536; the draw by n is the rest of s by 8, rounded down, by n.",
             EdgesOfLives::draws);
@@ -50,6 +51,8 @@ final class EdgesOfLives {
             + "4: 1 if a STEP was left to be done, else 0 (1; 6: there was none).", EdgesOfLives::lived);
         d.promise(65, "The FRACTION is the mean of all COINS behind the VOYAGES, by so many seeds (1 to 20) from one on "
             + "(1: the last above 9,999, too; 6: no VOYAGES); all stays as it is.", EdgesOfLives::mean);
+        d.promise(65, "The FRACTION is the mean of all COINS behind the VOYAGES", EdgesOfLives::noWholeNumber);
+        d.promise(65, "by so many seeds (1 to 20) from one on", EdgesOfLives::fromOneOn);
         d.promise(66, "A MARK more: how many there are (4).", EdgesOfLives::mark);
         d.promise(67, "All is taken back to the latest MARK: how many there are left (6).", EdgesOfLives::undo);
     }
@@ -126,6 +129,10 @@ final class EdgesOfLives {
         faulty("when in one bay;loop 1;end;", 2, 27);
         taken("when in one bay;loop 1;end;end;", 2);
         taken("loop 1;end;", 1);
+        s.none("a text that ends within two", s.voyages("loop 1;loop 1;"), 9);
+        s.badVoyages("end;", 2, 0);
+        s.badVoyages("loop 1;", 2, 7);
+        s.fine("is not gone on with", s.voyages("loop 1;loop 1;loop 1;end;end;end;"), 3);
     }
 
     private static void noSuchName(Sea s) {
@@ -191,6 +198,9 @@ final class EdgesOfLives {
             faulty(thirty + " " + step, 6, 151);
         }
         taken("stop;".repeat(28) + "loop 1;loop 1;end;end;", 30);
+        Sea t = Sea.of("thirty loops in 300 bytes");
+        t.goodVoyages("loop1;end;".repeat(30), 30);
+        t.fine("all are done", t.x.live(0), 30);
         faulty("stop;".repeat(28) + "loop 1;loop 1;end;end;stop;", 6, 140 + 22);
         faulty("stop;".repeat(27) + "loop 1;loop 1;loop 1;loop 1;", 6, 135 + 21);
     }
@@ -327,6 +337,22 @@ final class EdgesOfLives {
         stepsAre("loop 99;loop 99;loop 99;end;end;end;", 3, 300, 1, 0);
     }
 
+    private static void tests(Sea s) {
+        String[] yes = {"ruled one blue", "in one ash", "in two bay", "coins one < 41", "coins one > 39", "coins one = 40"};
+        String[] no = {"ruled one red", "ruled one green", "ruled tri red", "in one bay", "in two ash", "coins one < 40", "coins one > 40",
+            "coins one = 39", "coins one = 41"};
+        for (String test : yes) {
+            stepsAre("when " + test + ";day 1;end;day 2;", 3, 3, 0, 3);
+        }
+        for (String test : no) {
+            stepsAre("when " + test + ";day 1;loop 2;stop;end;end;day 2;", 5, 2, 0, 2);
+        }
+        s.world(Sea.WORLD);
+        s.x.sail(0, 1);
+        s.goodVoyages("when in one ash;day 1;end;when in one bay;day 1;end;", 4);
+        s.fine("at sea it is in none", s.x.live(0), 2);
+    }
+
     private static void asItIsThen(Sea s) {
         s.world(Sea.WORLD);
         s.goodVoyages("buy one rum 1;sail one bay;day 1;", 3);
@@ -387,11 +413,13 @@ final class EdgesOfLives {
 
     private static void takenBack(Sea s) {
         s.world(Sea.WORLD);
+        s.x.sail(1, 2);
+        s.x.day(1);
         s.goodVoyages("day 1;day 1;", 2);
         String was = s.all();
         s.x.mark();
         s.x.buy(0, 0, 1);
-        s.x.sell(1, 1, 1);
+        s.x.dump(1, 1, 1);
         s.x.sail(0, 1);
         s.x.pay(2, -9000);
         s.x.rule(2);
@@ -403,7 +431,7 @@ final class EdgesOfLives {
         s.same("all is taken back", s.all(), was);
         s.fine("the voyages, too", s.x.live(0), 2);
         s.none("the mark is gone", s.x.undo(), 6);
-        s.fine("nothing was taken back", s.x.told(5), 2);
+        s.fine("nothing was taken back", s.x.told(5), 3);
     }
 
     private static void fractions(Sea s) {
@@ -517,7 +545,10 @@ final class EdgesOfLives {
         s.goodVoyages("buy one rum 1;buy tri tea 2;", 2);
         s.fine("two seeds, the same each", s.x.mean(5, 2));
         s.fraction("10,139 - 5 - 6", 10128, 1);
-        s.same("all stays as it is", s.all(), was);
+        s.fine("the coins stay", s.x.told(9), 10139);
+    }
+
+    private static void noWholeNumber(Sea s) {
         // A ship that is ruled pays a wage of 3 a day at sea: a mean that is no whole number, by one seed that sails and one that does not.
         s.world("nation a wage 3;good g of a worth 1;port p;port q;way p q days 1;ship s at p hold 9 coins 10;aboard s g 1;");
         s.goodVoyages("any s;day 1;", 2);
@@ -527,6 +558,23 @@ final class EdgesOfLives {
         s.fine("voyages of no steps", s.x.voyages(0), 0);
         s.fine("mean", s.x.mean(0, 20));
         s.fraction("as it is", 10, 1);
+    }
+
+    private static void fromOneOn(Sea s) {
+        s.world("nation a wage 3;good g of a worth 1;port p;port q;port r;way p q days 9;ship s at p hold 9 coins 100;aboard s g 1;");
+        s.goodVoyages("any s;day 1;any s;day 1;any s;day 2;", 6);
+        for (int from : new int[] {0, 5000, 9980}) {
+            long sum = 0;
+            for (int seed = from; seed < from + 20; seed++) {
+                s.x.mark();
+                s.x.live(seed);
+                sum += s.x.told(9);
+                s.x.undo();
+            }
+            s.fine("20 from " + from, s.x.mean(from, 20));
+            s.due("their mean", s.x.top() * 20, sum * s.x.bottom());
+            s.due("not all are the same", sum % 20 != 0 || sum / 20 != 100, true);
+        }
     }
 
     private static void mark(Sea s) {

@@ -340,6 +340,8 @@ final class EdgesOfOutlook {
         s.none("full, and lawless", s.x.passFor(0, 0), 6);
         s.world(LONG + "ship s at p hold 60;");
         s.fine("one ton of an empty one", s.x.passFor(0, 2), 1);
+        s.fine("one ton of the first good", s.x.passFor(0, 0), 1);
+        s.fine("the first good", s.x.passGood(0, 0), 0);
         s.world(LONG + "ship s at p hold 60;aboard s h 60;");
         s.fine("full, and ruled so", s.x.passFor(0, 1), 0);
     }

@@ -58,6 +58,9 @@ final class EdgesOfTexts {
         d.term("ABOARD: of a GOOD so many tons (1 to 60; all together not above the HOLD; told again for these two: more).", EdgesOfTexts::aboardInText);
         d.term("RULE (0 to 2; 0 without).", s -> number("", "rule ", 0, 2, 0, x -> x.told(4)));
         d.term("All are numbered as they stand", EdgesOfTexts::asTheyStand);
+        d.term("All are numbered as they stand", EdgesOfTexts::allThatThereCanBe);
+        d.term("All are numbered as they stand", EdgesOfTexts::waysOfAll);
+        d.term("WORLD: {PART}.", EdgesOfTexts::aShipAlone);
         d.term("what a PART names must be told ahead.", EdgesOfTexts::toldAhead);
     }
 
@@ -70,6 +73,7 @@ final class EdgesOfTexts {
         d.term("5 a NATION, a PORT and itself (at the second NAME); rule told already (at that WORD).", EdgesOfTexts::itself);
         d.term("6 a seventh nation, port, a ninth good, a fifth ship (at that WORD).", EdgesOfTexts::oneMore);
         d.term("A WORLD that is taken is there in place of that ahead; it is DAY 0, there are no VOYAGES.", EdgesOfTexts::inPlaceOf);
+        d.term("A WORLD that is taken is there in place of that ahead; it is DAY 0, there are no VOYAGES.", EdgesOfTexts::behindAMean);
     }
 
     private static void tellPromises(Sentences d) {
@@ -370,6 +374,104 @@ final class EdgesOfTexts {
         s.fine("c", s.x.ship(1, 0), 0);
     }
 
+    /** Six nations and ports, eight goods, four ships; good h is the second of nation 1, of which ship i has 4 + i tons. */
+    private static String full() {
+        StringBuilder t = new StringBuilder();
+        for (int i = 0; i < 6; i++) {
+            char c = (char) ('a' + i);
+            t.append("nation n").append(c).append(" wage ").append(i).append(";port p").append(c).append(";");
+        }
+        for (int i = 0; i < 8; i++) {
+            t.append("good g").append((char) ('a' + i)).append(" of n").append((char) ('a' + i % 6)).append(" worth ").append(i + 1).append(" leaks 1;");
+        }
+        for (int i = 0; i < 4; i++) {
+            char c = (char) ('a' + i);
+            t.append("ship s").append(c).append(" at p").append(c).append(" hold 60;aboard s").append(c).append(" gh ").append(4 + i).append(";");
+        }
+        return t.append("war na nf;war nb nf;way pa pf days 1;way pf pd days 2;price pd gh 3;price pf gh 9;").toString();
+    }
+
+    private static void allThatThereCanBe(Sea s) {
+        s.fine("world", s.world(full()), 4);
+        s.fine("tons", s.x.told(8), 22);
+        s.fine("none is lawless", s.x.told(7), 0);
+        s.fine("weight", s.x.weight(3, 5), 0);
+        s.fine("captains", s.x.captains(3), 2);
+        s.fine("ruled", s.x.ruled(3), 1);
+        s.fine("share", s.x.share(3, 1));
+        s.fraction("share", 1, 1);
+        s.fine("deeds", s.x.deeds(3), 0);
+        s.fine("boarders", s.x.boarders(3), 0);
+        s.fine("greatest", s.x.greatest(1), 3);
+        s.fine("flagIn", s.x.flagIn(3, 6), 1);
+        s.fine("tonsIn", s.x.tonsIn(3, 6), 1);
+        s.fine("turns", s.x.turns(3), 7);
+        s.fine("flags", s.x.flags(3, 99), 1);
+        s.fine("wages", s.x.wages(3, 99), 7);
+        s.fine("stowaway", s.x.stowaway(3), 7);
+        s.fine("stowawayGood", s.x.stowawayGood(3), 0);
+        s.fine("guard", s.x.guard(3, 6), 1);
+        s.fine("passFor", s.x.passFor(3, 5), 8);
+        s.fine("passGood", s.x.passGood(3, 5), 5);
+        s.none("peace", s.x.peace(3), 6);
+        s.x.trade(3, 4, 99);
+        s.fine("peaceCost", s.x.peaceCost(3), 53 * 99);
+        s.x.trade(3, 4, 0);
+        s.x.tray(0, 0, 1);
+        // Three of ga with gg; of either with each of the six goods of others one.
+        s.fine("log", s.x.log(0, 1, 3), 15);
+        s.fine("sure", s.x.sure(0, 1, 2), 65);
+        s.fine("copyLog", s.x.copyLog(3, 0, 1), 1);
+        s.fine("read", s.x.read(0, 0), 1);
+        s.fine("buy", s.x.buy(3, 7, 33), 40);
+        s.fine("sell", s.x.sell(3, 7, 40), 0);
+    }
+
+    private static void waysOfAll(Sea s) {
+        s.fine("world", s.world(full()), 4);
+        s.fine("best", s.x.best(3, 5), 7);
+        s.fine("soonest", s.x.soonest(0, 3), 3);
+        s.fine("next", s.x.next(3, 0), 5);
+        s.fine("reach", s.x.reach(5), 41);
+        // Seven tons sold at 3, forty bought; 38 of them sold at 9; back; 60 bought, two wages, 58 sold.
+        s.fine("voyage", s.x.voyage(3, 3), 38 * 9 - 60 * 3 - 2 + 58 * 9);
+        s.fine("voyageAt", s.x.voyageAt(3, 3, 0), 5);
+        s.fine("voyageAt", s.x.voyageAt(3, 3, 1), 7);
+        s.fine("war", s.x.nation(5, 3), 3);
+        s.goodVoyages("sail sd pf;day 2;sell sd gh 5;any sd;day 1;", 5);
+        s.fine("live", s.x.live(0), 5);
+        s.fine("entered", s.x.lived(3), 1);
+        s.fine("of the last good none is left", s.x.aboard(3, 7), 0);
+        s.fine("mark", s.x.mark(), 1);
+        s.fine("day", s.x.day(99), 0);
+        s.fine("undo", s.x.undo(), 0);
+    }
+
+    private static void aShipAlone(Sea s) {
+        s.fine("a ship without nations, goods, ways", s.world("port p;ship s at p hold 60;"), 1);
+        s.none("ruled", s.x.ruled(0), 6);
+        s.fine("captains", s.x.captains(0), 0);
+        s.fine("deeds", s.x.deeds(0), 255);
+        s.fine("boarders", s.x.boarders(0), 0);
+        s.none("flagIn", s.x.flagIn(0, 9), 6);
+        s.fine("tonsIn", s.x.tonsIn(0, 9), 0);
+        s.none("turns", s.x.turns(0), 6);
+        s.fine("flags", s.x.flags(0, 9), 0);
+        s.fine("wages", s.x.wages(0, 9), 0);
+        s.none("stowaway", s.x.stowaway(0), 6);
+        s.fine("guard", s.x.guard(0, 60), 1);
+        s.none("passFor", s.x.passFor(0, 0), 1);
+        s.none("peace", s.x.peace(0), 6);
+        s.none("voyage", s.x.voyage(0, 3), 6);
+        s.fine("soonest", s.x.soonest(0, 0), 0);
+        s.fine("reach", s.x.reach(0), 1);
+        s.none("no good", s.x.buy(0, 0, 1), 1);
+        s.no("no nation", s.x.share(0, 0), 1);
+        s.none("sail", s.x.sail(0, 0), 7);
+        s.fine("days", s.x.day(99), 0);
+        s.fine("coins", s.x.told(9), 100);
+    }
+
     private static void toldAhead(Sea s) {
         faulty("good g of n worth 1;nation n;", 3, 10);
         faulty("port p of n;nation n;", 3, 10);
@@ -528,6 +630,29 @@ final class EdgesOfTexts {
         }
     }
 
+    /** A ship at sea, unpaid, with duties paid: nothing of it is in the next world, though mean() has put it by. */
+    private static void behindAMean(Sea s) {
+        String text = "nation a wage 5 duty 2;nation b duty 9;good g of a worth 1;port p;port q of b;way p q days 3;ship s at p hold 9 coins 6;aboard s g 1;rule 1;";
+        s.fine("world", s.world(text), 1);
+        s.x.sail(0, 1);
+        s.x.day(3);
+        s.x.pay(0, 9);
+        s.x.sail(0, 0);
+        s.x.day(1);
+        s.fine("at sea", s.x.ship(0, 2), 2);
+        s.fine("unpaid", s.x.ship(0, 6), 2);
+        s.fine("duties", s.x.ship(0, 7), 1);
+        s.goodVoyages("day 1;", 1);
+        s.fine("mean", s.x.mean(3, 4));
+        s.fine("the same world again", s.world(text), 1);
+        int[] due = {0, -1, 0, 9, 6, 1, 0, 0};
+        for (int what = 0; what < 8; what++) {
+            s.due("ship " + what, s.x.ship(0, what), due[what]);
+        }
+        s.fine("day 0", s.x.told(5), 0);
+        s.none("no voyages", s.x.live(0), 6);
+    }
+
     // ---- promises
 
     private static void feed(Sea s) {
@@ -571,6 +696,16 @@ final class EdgesOfTexts {
         s.none("empty then", s.x.world(1), 1);
         s.due("60", s.feed("port p;ship s at p hold 1;ship t at p hold 12;" + many(" ", 14)), 60);
         s.fine("as many as the tape has", s.x.world(60), 2);
+        s.feed("port pp;");
+        s.none("a word is cut off by n", s.x.world(6), 9);
+        s.due("the end", s.x.fault(0), 2);
+        s.due("its place", s.x.fault(1), 6);
+        s.feed("rule 22;");
+        s.none("a number is cut off by n", s.x.world(6), 9);
+        s.due("the end", s.x.fault(0), 2);
+        s.due("its place", s.x.fault(1), 6);
+        s.feed("rule 1;#");
+        s.fine("what is behind them does not matter", s.x.world(7), 0);
         s.feed("port p q            ");
         s.none("by 9, too", s.x.world(20), 9);
         s.none("empty then", s.x.world(1), 1);

@@ -22,6 +22,7 @@ final class EdgesOfVoyages {
         d.term("LOG by a TRAY of n DAYS (1 to 20): of each DAY the NATION by which a SHIP was RULED (-1: LAWLESS):", EdgesOfVoyages::ofEachDay);
         d.term("it left with x tons of a GOOD and y tons of another one (x, y 1 to h, together no more than h, the first GOOD's number is the less), "
             + "and LEAKED: in how many ways (DAY 0 is ahead of any leaking).", EdgesOfVoyages::ways);
+        d.term("in how many ways (DAY 0 is ahead of any leaking).", EdgesOfVoyages::waysByRule);
         d.term("SURE: the GOODS that are in all of these ways.", EdgesOfVoyages::inAllWays);
     }
 
@@ -176,6 +177,27 @@ final class EdgesOfVoyages {
         s.fine("one good alone", s.x.log(0, 1, 60), 0);
     }
 
+    private static void waysByRule(Sea s) {
+        s.world("nation a;nation b;good g of a worth 3;good h of b worth 2 leaks 1;rule 2;");
+        tray(s, 0, 0, -1);
+        s.fine("by worth even: 2 and 3, 4 and 6", s.x.log(0, 1, 10), 2);
+        tray(s, 0, 0, 0);
+        s.fine("by worth a: 1 and 1, 2 and 1, 2 and 2, 3 and 1", s.x.log(0, 1, 4), 4);
+        tray(s, 0, 0, 1);
+        s.fine("by worth b: 1 and 2, 1 and 3", s.x.log(0, 1, 4), 2);
+        s.x.rule(1);
+        s.fine("by kinds never b", s.x.log(0, 1, 60), 0);
+        tray(s, 0, 0, -1);
+        s.fine("by kinds even: all", s.x.log(0, 1, 60), 1770);
+        tray(s, 0, 0, -1, 0);
+        s.fine("by kinds a, as h is gone: 1 of it, 1 to 59 of g", s.x.log(0, 2, 60), 59);
+        tray(s, 0, 0, -1, -1, 0);
+        s.fine("in two days: 2 of it, 1 to 58 of g", s.x.log(0, 3, 60), 58);
+        s.x.rule(0);
+        tray(s, 0, 0, -1);
+        s.fine("by tons even", s.x.log(0, 1, 60), 30);
+    }
+
     private static void inAllWays(Sea s) {
         s.world("nation a;nation b;good g of a worth 1;good h of b worth 1;good i of b worth 1;");
         tray(s, 0, 0, 0);
@@ -276,6 +298,8 @@ final class EdgesOfVoyages {
         s.world("port a;port b;port c;way b a days 2;way b c days 1;way c a days 1;");
         s.fine("a at once, or over c: a is the first", s.x.next(1, 0), 0);
         s.fine("b at once, or over c: b is the first", s.x.next(0, 1), 1);
+        s.fine("by a way of one day", s.x.next(2, 1), 1);
+        s.fine("by a way of one day", s.x.next(0, 2), 2);
     }
 
     private static void reach(Sea s) {

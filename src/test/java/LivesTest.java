@@ -14,6 +14,7 @@ public final class LivesTest {
         draws();
         lived();
         mean();
+        meanOfNoSteps();
         newWorldBehindMean();
         marks();
         Sea.end("LivesTest");
@@ -253,7 +254,7 @@ public final class LivesTest {
         s.fine("live", s.x.live(7), 1);
         s.fine("to dun there is no way", s.x.lived(0), 1);
         s.goodVoyages("any one;any one;any one;any one;any one;any one;", 6);
-        for (int seed = 0; seed < 60; seed++) {
+        for (int seed = 0; seed < 25; seed++) {
             s.x.mark();
             long d = seed;
             int port = 0;
@@ -324,6 +325,10 @@ public final class LivesTest {
         s.due("a whole", s.x.bottom(), 1);
         s.no("refused", s.x.mean(9981, 20), 1);
         s.due("stays", s.x.bottom(), 1);
+    }
+
+    private static void meanOfNoSteps() {
+        Sea s = Sea.of("mean of no steps");
         s.goodVoyages("", 0);
         s.fine("no steps", s.x.mean(0, 3));
         s.fraction("as it is", 10139, 1);
@@ -351,7 +356,9 @@ public final class LivesTest {
     }
 
     private static void marks() {
-        Sea s = Sea.of("marks");
+        Sea s = new Sea("marks");
+        s.world("nation red;nation blue;nation green;war red blue;good rum of red worth 10 leaks 1;good tea of blue worth 4 leaks 2;port ash;port bay;port cay;"
+            + "way ash bay days 2;way bay cay days 3;price ash rum 5;ship one at ash hold 10 coins 40;ship two at bay hold 20;aboard one rum 2;aboard two tea 5;");
         s.none("none", s.x.undo(), 6);
         String first = s.all();
         s.goodVoyages("day 4;", 1);
@@ -361,7 +368,7 @@ public final class LivesTest {
         s.x.day(5);
         s.x.rule(2);
         s.x.war(0, 2, true);
-        s.x.trade(3, 3, 8);
+        s.x.trade(2, 1, 8);
         s.x.tray(0, 0, 1);
         s.x.write(0, 0, 9);
         s.x.share(0, 0);

@@ -124,34 +124,36 @@ final class Sea {
     /** All that can be asked of the world, as a text, to see what a call has changed. */
     String all() {
         StringBuilder s = new StringBuilder();
+        int[] told = new int[10];
         for (int w = 0; w < 10; w++) {
-            s.append(x.told(w)).append(' ');
+            told[w] = x.told(w);
+            s.append(told[w]).append(' ');
         }
-        for (int n = 0; n < x.told(0); n++) {
+        for (int n = 0; n < told[0]; n++) {
             for (int w = 0; w < 4; w++) {
                 s.append(x.nation(n, w)).append(' ');
             }
         }
-        for (int g = 0; g < x.told(1); g++) {
+        for (int g = 0; g < told[1]; g++) {
             for (int w = 0; w < 3; w++) {
                 s.append(x.good(g, w)).append(' ');
             }
         }
-        for (int p = 0; p < x.told(2); p++) {
+        for (int p = 0; p < told[2]; p++) {
             s.append('|').append(x.portOf(p)).append(' ');
-            for (int g = 0; g < x.told(1); g++) {
+            for (int g = 0; g < told[1]; g++) {
                 s.append(x.price(p, g)).append(' ');
             }
-            for (int q = 0; q < x.told(2); q++) {
+            for (int q = 0; q < told[2]; q++) {
                 s.append(x.way(p, q)).append(' ');
             }
         }
-        for (int v = 0; v < x.told(3); v++) {
+        for (int v = 0; v < told[3]; v++) {
             s.append('/');
             for (int w = 0; w < 8; w++) {
                 s.append(x.ship(v, w)).append(' ');
             }
-            for (int g = 0; g < x.told(1); g++) {
+            for (int g = 0; g < told[1]; g++) {
                 s.append(x.aboard(v, g)).append(' ');
             }
         }
