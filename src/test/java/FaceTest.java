@@ -1,8 +1,10 @@
+import java.io.File;
 import java.io.IOException;
 import java.lang.reflect.Constructor;
 import java.lang.reflect.Field;
 import java.lang.reflect.Method;
 import java.lang.reflect.Modifier;
+import java.net.URISyntaxException;
 import java.nio.file.Files;
 import java.nio.file.Path;
 import java.util.ArrayList;
@@ -33,9 +35,10 @@ public final class FaceTest {
 
     private static final Sea SEA = new Sea("face");
 
-    public static void main(String[] args) throws IOException {
+    public static void main(String[] args) throws IOException, URISyntaxException {
         face();
         classesInside();
+        compiled();
         source(Files.readString(Path.of("src/main/java/CargoFlag.java")));
         Sea.end("FaceTest");
     }
@@ -99,6 +102,25 @@ public final class FaceTest {
                 SEA.due(m + " has a name of its own", c != CargoFlag.class && publicNames().contains(m.getName()), false);
             }
         }
+    }
+
+    /** No call makes an object, none goes deeper than eight, one method alone calls itself. */
+    private static void compiled() throws URISyntaxException {
+        Bytecode code = new Bytecode(new File(CargoFlag.class.getProtectionDomain().getCodeSource().getLocation().toURI()));
+        if (!code.isThere()) {
+            System.out.println("FaceTest: this Java has no javap, calls are not looked at");
+            return;
+        }
+        for (String m : code.makers) {
+            SEA.due(m + " makes an object", m.endsWith(".<init>"), true);
+        }
+        for (String m : code.calls.keySet()) {
+            int deep = code.depth(m, Set.of());
+            SEA.due(m + " goes " + deep + " deep", deep <= 8, true);
+        }
+        SEA.same("recursion", code.recursive().toString(), "[CargoFlag$Search.mostCoins]");
+        SEA.same("library", code.library().toString(), "[java/lang/Integer.bitCount, java/lang/Math.max, java/lang/Math.min, "
+            + "java/lang/Object.<init>, java/lang/String.charAt, java/lang/String.length, java/lang/System.arraycopy, java/util/Arrays.fill]");
     }
 
     private static void source(String text) {
